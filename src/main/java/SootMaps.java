@@ -627,7 +627,7 @@ public final class SootMaps {
             draft.clear();
             for (int clause = 0; clause < TEXT_ROOM && fault == 0; clause++) {
                 skipBlanks();
-                if (isAtEnd()) {
+                if (at >= length) {
                     break;
                 }
                 readClause();
@@ -635,13 +635,9 @@ public final class SootMaps {
             length = 0;
         }
 
-        private boolean isAtEnd() {
-            return at < 0 || at >= length || at >= TEXT_ROOM;
-        }
-
         /** The letter that is read now; 0, which is no word, at the end. */
         private char letter() {
-            return isAtEnd() ? 0 : letters[at];
+            return at >= 0 && at < length && at < TEXT_ROOM ? letters[at] : 0;
         }
 
         private void skipBlanks() {
@@ -715,7 +711,7 @@ public final class SootMaps {
             int start = at;
             int number = 0;
             int figures = 0;
-            for (int i = 0; i < TEXT_ROOM && isFigure(); i++) {
+            for (int i = 0; i < TEXT_ROOM && isFigure(letter()); i++) {
                 figures++;
                 if (figures <= 3) {
                     number = number * 10 + (letter() - '0');
@@ -730,8 +726,8 @@ public final class SootMaps {
             return number;
         }
 
-        private boolean isFigure() {
-            return letter() >= '0' && letter() <= '9';
+        private static boolean isFigure(char letter) {
+            return letter >= '0' && letter <= '9';
         }
 
         private void readEnd() {

@@ -681,6 +681,7 @@ public final class PromisesTest {
     x.see(0, 5, false);
     due(26, "nobody", x.next(5, 0), 0);
     due(26, "nobody is not parted", x.next(5, 1), NONE);
+    due(26, "the greatest kind", x.next(7, 0), 15);
     due(26, "kind below", x.next(0, 0), OUTSIDE);
     due(26, "kind above", x.next(8, 0), OUTSIDE);
     due(26, "what below", x.next(1, -1), OUTSIDE);
