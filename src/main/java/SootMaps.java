@@ -676,7 +676,9 @@ public final class SootMaps {
         }
 
         private void readNumbersOf(char word) {
+            skipBlanks();
             int first = readFirst(word);
+            skipBlanks();
             int second = fault != 0 ? 0 : readNumber(word == 'c' ? 4 : word == 'h' ? KIND_TOP : 99);
             if (fault == 0) {
                 readEnd();
@@ -695,7 +697,6 @@ public final class SootMaps {
 
         /** A clause's first number; that of a house or sweep is bound by the houses told ahead of it. */
         private int readFirst(char word) {
-            skipBlanks();
             int start = at;
             int number = readNumber(word == 'c' ? 2 : word == 'h' ? NO_HOUSE_WORD : (1 << HOUSE_ROOM) - 1);
             boolean isTold = word == 'h' ? number == NO_HOUSE_WORD || number < draft.houses
@@ -707,7 +708,6 @@ public final class SootMaps {
         }
 
         private int readNumber(int top) {
-            skipBlanks();
             int start = at;
             int number = 0;
             int figures = 0;
