@@ -43,6 +43,22 @@ public final class TriedEdgesTest {
       "trade 0 15 2", "ring -1", "ring 0", "brushes 1 0", "brushes 2 1", "wet 8 50", "next 1 0", "next 1 1", "judge"};
     Twins twins = new Twins(check, STREET, ahead);
     for (String words : tried) twins.unchanged(words, x -> Calls.call(x, words), Calls.call(twins.make(), words));
+    oneBehindTheOther();
+  }
+
+  /** What is tried leaves nothing behind for what is tried next, in rows that are used again either. */
+  private static void oneBehindTheOther() {
+    String text = "c1 0;h9 1;h0 2;h1 3;h9 4;h3 5;h9 6;s3 5;s6 7;s24 9;s63 50;s0 2;";
+    String[] tried = {"trade 0 63 -1", "trade 0 4 -1", "trade 0 0 -1", "trade 0 28 3", "trade 4 63 -1", "trade 4 1 0", "trade 2 7 -1",
+      "trade 1 57 5", "burned 0 3 -1", "burned 2 1 0", "burned 5 2 0", "sure 1 1 1", "sure 5 1 1", "ring -1", "ring 1", "next 1 1"};
+    Twins twins = new Twins(check, text, "month 1");
+    for (String first : tried) {
+      SootMaps x = twins.make();
+      for (String second : tried) {
+        Calls.call(x, first);
+        check.due(second + " behind " + first, Calls.call(x, second), Calls.call(twins.make(), second));
+      }
+    }
   }
 
   // ---- burned
