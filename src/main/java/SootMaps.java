@@ -20,6 +20,7 @@ public final class SootMaps {
     private static final int ROW_MONTHS = 3;
     private static final int PURSE_ZERO = 100000;
     private static final int BILLION = 1000000000;
+    private static final int SEED_TOP = 2147483647;
 
     private final Text text = new Text();
     private final Plan plan = new Plan();
@@ -409,7 +410,7 @@ public final class SootMaps {
 
     private int draw(int n) {
         // wrap-around by 2 to the 32 leaves what is left over by 2 to the 31 as it is
-        dice = dice * 1103515245 + 12345 & Integer.MAX_VALUE;
+        dice = dice * 1103515245 + 12345 & SEED_TOP;
         return n < 1 ? 0 : dice / 65536 % n;
     }
 
@@ -1084,6 +1085,8 @@ public final class SootMaps {
          */
         private static final int TALLY_ROOM = 5 * 5 * 5 * 5;
         private static final int COST_ROOM = TALLY_ROOM * 6;
+        /** Nine maps at 99 each cost less. */
+        private static final int MORE_THAN_ALL = 1000;
 
         private final int[] needed = new int[HOUSE_ROOM];
         private final int[] givers = new int[HOUSE_ROOM];
@@ -1189,7 +1192,7 @@ public final class SootMaps {
 
         private int cheapestGiver(int i, int tally, Plan plan) {
             int best = 0;
-            int least = Integer.MAX_VALUE;
+            int least = MORE_THAN_ALL;
             for (int z = 0; z < plan.sweeps; z++) {
                 if ((givers[i] >> z & 1) == 1) {
                     int all = costBy(z, i, tally, plan);
